@@ -857,6 +857,22 @@ public final class PromisesTest {
         x = townOf("l00;l98;dy00;o1;");
         x.carry(0, 1);
         due.is(-9, x.homing(0), "too far for 40 dusks");
+        x = youngOneAwayAtDusk(2);
+        due.is(40, x.homing(0), "the 40th dusk is looked at");
+        due.is(40, x.run(1, 1), "the 40th dusk is looked at in a run, too");
+        x = youngOneAwayAtDusk(1);
+        due.is(-9, x.homing(0), "the 41st is not");
+        due.is(-9, x.run(1, 1), "the 41st is not, in a run neither");
+    }
+
+    /** A way of 17 asks for age 9, that comes behind dusk 40. */
+    private static CoinsAreDoves youngOneAwayAtDusk(int dusks) {
+        CoinsAreDoves x = townOf("l00;l98;dy00;o1;");
+        for (int i = 0; i < dusks; i++) {
+            x.dusk();
+        }
+        x.carry(0, 1);
+        return x;
     }
 
     private static void spare() {
