@@ -857,7 +857,14 @@ public final class EdgesTest {
         due.is(-9, new CoinsAreDoves().near(18, 1), "no lofts, d 18");
         due.is(0, townOf("l00;").near(0, 1), "one loft, no doves");
         due.is(0, townOf("l00;l90;l99;").near(0, 1), "no doves: all have 0");
+        due.is(0, townOf("l00;l90;dy00;ds10;").near(0, 1), "the first by its own");
+        due.is(0, townOf("l00;l01;l90;ds00;ds10;dy20;").near(1, 1), "the first two together");
         due.is(2, townOf("l00;l90;l99;ds20;").near(0, 1), "the last");
+        CoinsAreDoves full = townOf(FULL);
+        // 6, 5, 5, 5, 5, 7 (the old one with a dove, the stray with another): 1 and 4, 2 and 5 are one by ways of 4.
+        due.is(5, full.near(3, 1), "the last of six by its own");
+        due.is(2, full.near(4, 1), "with the last of six");
+        due.is(0, full.near(18, 1), "all six");
         due.is(1, townOf("l00;l90;l99;ds20;ds10;").near(0, 1), "of two as rich the least");
         due.is(0, townOf("l00;l90;l99;ds20;ds10;").near(18, 1), "all are one");
         due.is(0, townOf("l00;l90;l01;l91;ds20;ds30;").near(1, 1), "two purses of two, as rich");
@@ -1032,8 +1039,12 @@ public final class EdgesTest {
         due.is(1, x.paid(0), "one");
         due.is(10, x.paid(1), "one");
         x.judge();
-        tellRow(x, 0, 5);
-        due.is(0, x.paid(0), "a loft that is not there");
+        for (int loft = 2; loft <= 8; loft++) {
+            tellRow(x, 0, loft);
+            due.is(0, x.paid(0), "loft " + loft + ", that is not there");
+            due.is(-9, x.paid(1), "loft " + loft + ", that is not there");
+            x.judge();
+        }
         x = townOf("l00;dd00;");
         tellRow(x, 0);
         due.is(0, x.paid(0), "no other LOFT");
